@@ -1,7 +1,8 @@
 /** Long runs of calls, made by a fixed rule, on the class and on the model; each answer is compared. */
 public final class ModelTest {
-    private static final int RUNS = 1200;
-    private static final int CALLS = 512;
+    private static final int RUNS = 3000;
+    /** Nothing is promised of later calls; a text may end a run a little behind these. */
+    private static final int CALLS = 480;
 
     private static long seed;
 
@@ -20,6 +21,7 @@ public final class ModelTest {
     private static int call;
 
     private static void same(String name, int a, int b, int c, int got, int want) {
+        call++;
         Due.due("run " + run + ", call " + call + ": " + name + "(" + a + ", " + b + ", " + c + ")", got, want);
     }
 
@@ -103,27 +105,29 @@ public final class ModelTest {
         }
     }
 
-    private static void compareAll(boolean withDarkIn) {
-        for (int i = -1; i <= 6; i++) {
-            for (int what = -1; what <= 8; what++) {
-                same("lamp", i, what, 0, x.lamp(i, what), m.lamp(i, what));
+    private static void tell() {
+        int a = from(-1, 6);
+        int b = from(-1, 8);
+        int row = from(-1, 11);
+        int what = from(-1, 3);
+        switch (upTo(8)) {
+            case 0, 1 -> same("lamp", a, b, 0, x.lamp(a, b), m.lamp(a, b));
+            case 2 -> same("wheel", b, 0, 0, x.wheel(b), m.wheel(b));
+            case 3 -> same("tiredIn", a, 0, 0, x.tiredIn(a), m.tiredIn(a));
+            case 4 -> same("ranked", a, 0, 0, x.ranked(a), m.ranked(a));
+            case 5 -> same("planned", row, what, 0, x.planned(row, what), m.planned(row, what));
+            case 6 -> same("event", row, what, 0, x.event(row, what), m.event(row, what));
+            case 7 -> {
+                int number = from(-1, 14);
+                same("count", number, 0, 0, x.count(number), m.count(number));
             }
-            same("tiredIn", i, 0, 0, x.tiredIn(i), m.tiredIn(i));
-            same("ranked", i, 0, 0, x.ranked(i), m.ranked(i));
-            same("setting", i, 0, 0, x.setting(i), m.setting(i));
-        }
-        for (int i = -1; i <= 11; i++) {
-            for (int what = -1; what <= 3; what++) {
-                same("planned", i, what, 0, x.planned(i, what), m.planned(i, what));
-                same("event", i, what, 0, x.event(i, what), m.event(i, what));
+            default -> {
+                if (upTo(3) == 0) {
+                    same("darkIn", 0, 0, 0, x.darkIn(), m.darkIn());
+                } else {
+                    same("setting", what, 0, 0, x.setting(what), m.setting(what));
+                }
             }
-        }
-        for (int what = -1; what <= 14; what++) {
-            same("wheel", what, 0, 0, x.wheel(what), m.wheel(what));
-            same("count", what, 0, 0, x.count(what), m.count(what));
-        }
-        if (withDarkIn) {
-            same("darkIn", 0, 0, 0, x.darkIn(), m.darkIn());
         }
     }
 
@@ -132,10 +136,13 @@ public final class ModelTest {
             seed = 1000003L * run + 17;
             x = new LampChanger();
             m = new Model();
-            int length = run % 10 == 0 ? CALLS : 60;
-            for (call = 0; call < length; call++) {
-                change(run % 3);
-                compareAll(call % 8 == 0);
+            call = 0;
+            while (call < CALLS) {
+                if (upTo(2) == 0) {
+                    change(run % 3);
+                } else {
+                    tell();
+                }
             }
         }
         Due.end();
