@@ -139,13 +139,65 @@ public final class HistoryTest {
         Due.due("one behind the other", x.count(8), 12);
     }
 
+    private static void wheelIs(LampChanger x, int front, int aim, int toGo, int burns) {
+        int[] due = {front, aim, toGo, burns};
+        for (int what = 0; what <= 3; what++) {
+            Due.due("wheel(" + what + ")", x.wheel(what), due[what]);
+        }
+    }
+
+    private static void promise13UndoOfATurn() {
+        LampChanger x = new LampChanger();
+        x.putIn(0, 0, 70);
+        x.pass(3);
+        x.turnTo(4);
+        Due.due("dark while it turns", x.pass(3), 3);
+        wheelIs(x, 0, 4, 5, 0);
+        x.takeOut(0);
+        x.putIn(0, 1, 150);
+        x.undo();
+        x.undo();
+        Due.due("kind", x.lamp(0, 0), 0);
+        Due.due("strength", x.lamp(0, 1), 70);
+        Due.due("wear", x.lamp(0, 2), 13);
+        Due.due("life", x.lamp(0, 3), 280);
+        wheelIs(x, 0, 4, 5, 0);
+        x.undo();
+        wheelIs(x, 0, 4, 8, 0);
+        Due.due("dark ticks", x.count(7), 0);
+        Due.due("dark ticks one behind the other", x.count(8), 0);
+        x.undo();
+        wheelIs(x, 0, Due.NONE, 0, 1);
+        Due.due("it burns on, not switched on again", x.pass(1), 0);
+        Due.due("wear", x.lamp(0, 2), 14);
+    }
+
+    private static void promise15RestoreOfATurn() {
+        LampChanger x = new LampChanger();
+        x.putIn(0, 0, 70);
+        x.pass(3);
+        x.turnTo(4);
+        x.pass(2);
+        x.keep();
+        x.pass(160);
+        wheelIs(x, 0, Due.NONE, 0, 0);
+        x.restore();
+        wheelIs(x, 0, 4, 6, 0);
+        Due.due("dark ticks", x.count(7), 2);
+        Due.due("dark ticks one behind the other", x.count(8), 2);
+        x.undo();
+        wheelIs(x, 0, Due.NONE, 0, 0);
+    }
+
     public static void main(String[] args) {
         promise13Undo();
         promise13UndoBringsAllBack();
+        promise13UndoOfATurn();
         promise13DarkRunIsPartOfTheState();
         promise14Keep();
         promise15Restore();
         promise15RestoreBringsAllBack();
+        promise15RestoreOfATurn();
         Due.end();
     }
 }
