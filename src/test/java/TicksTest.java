@@ -1,13 +1,5 @@
 /** Promise 10 (pass): the arguments, and what happens in a tick. */
 public final class TicksTest {
-    /** Limit 99 and patience 1: a lamp is tired in the first tick in which it burns. */
-    private static LampChanger quicklyTired() {
-        LampChanger x = new LampChanger();
-        x.set(0, 99);
-        x.set(1, 1);
-        return x;
-    }
-
     private static void eventIs(LampChanger x, int back, int event, int number, int tick) {
         Due.due("event(" + back + ", 0)", x.event(back, 0), event);
         Due.due("event(" + back + ", 1)", x.event(back, 1), number);
@@ -205,7 +197,7 @@ public final class TicksTest {
     }
 
     private static void theNextOneInTheNight() {
-        LampChanger x = quicklyTired();
+        LampChanger x = Due.quicklyTired();
         x.set(2, 1);
         x.putIn(1, 2, 50);
         x.turnTo(1);
@@ -220,7 +212,7 @@ public final class TicksTest {
     }
 
     private static void aTiredOneInTheNight() {
-        LampChanger x = quicklyTired();
+        LampChanger x = Due.quicklyTired();
         x.set(2, 1);
         x.putIn(1, 2, 50);
         x.turnTo(1);
@@ -234,7 +226,7 @@ public final class TicksTest {
     }
 
     private static void aTiredLampStaysInTheNight() {
-        LampChanger x = quicklyTired();
+        LampChanger x = Due.quicklyTired();
         x.putIn(0, 2, 50);
         x.putIn(1, 2, 50);
         Due.due("lit", x.pass(12), 0);
@@ -247,7 +239,7 @@ public final class TicksTest {
     }
 
     private static void changesByDay() {
-        LampChanger x = quicklyTired();
+        LampChanger x = Due.quicklyTired();
         x.pass(12);
         Due.due("no lamp at all", x.wheel(1), Due.NONE);
         x.putIn(3, 2, 50);
@@ -347,7 +339,7 @@ public final class TicksTest {
     }
 
     private static void boatsTakeOldLampsOut(int tiredOnesToo) {
-        LampChanger x = quicklyTired();
+        LampChanger x = Due.quicklyTired();
         x.set(3, tiredOnesToo);
         x.set(2, 1);
         x.putIn(0, 2, 50);
@@ -385,7 +377,7 @@ public final class TicksTest {
     }
 
     private static void aBoatWithoutRoomInTheStockForTheTired() {
-        LampChanger x = quicklyTired();
+        LampChanger x = Due.quicklyTired();
         x.set(3, 1);
         x.putIn(0, 2, 50);
         x.pass(13);

@@ -1,12 +1,5 @@
 /** Promises 17 (wheel), 18 (tiredIn), 19 (darkIn) and 20 (ranked). */
 public final class ToldTest {
-    private static LampChanger quicklyTired() {
-        LampChanger x = new LampChanger();
-        x.set(0, 99);
-        x.set(1, 1);
-        return x;
-    }
-
     private static void wheelIs(LampChanger x, int... due) {
         for (int what = 0; what <= 7; what++) {
             Due.due("wheel(" + what + ")", x.wheel(what), due[what]);
@@ -52,7 +45,7 @@ public final class ToldTest {
     }
 
     private static void promise17TheNextSocket() {
-        LampChanger x = quicklyTired();
+        LampChanger x = Due.quicklyTired();
         x.putIn(0, 2, 50);
         Due.due("the front is the last that is looked at", x.wheel(5), 0);
         x.putIn(5, 2, 50);

@@ -46,6 +46,14 @@ final class Due {
         return dark;
     }
 
+    /** Limit 99 and patience 1: a small weak lamp is tired in the first tick in which it burns. */
+    static LampChanger quicklyTired() {
+        LampChanger x = new LampChanger();
+        x.set(0, 99);
+        x.set(1, 1);
+        return x;
+    }
+
     static void end() {
         System.out.println(asked + " answers, " + wrong + " not as due");
         if (wrong != 0 || asked == 0) {
