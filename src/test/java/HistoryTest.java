@@ -32,42 +32,6 @@ public final class HistoryTest {
         return x;
     }
 
-    private static int[] allThatIsTold(LampChanger x) {
-        int[] told = new int[140];
-        int n = 0;
-        for (int socket = 0; socket < 6; socket++) {
-            for (int what = 0; what <= 7; what++) {
-                told[n++] = x.lamp(socket, what);
-            }
-        }
-        for (int what = 0; what <= 7; what++) {
-            told[n++] = x.wheel(what);
-        }
-        for (int what = 0; what <= 11; what++) {
-            told[n++] = x.count(what);
-        }
-        for (int row = 0; row < 12; row++) {
-            for (int what = 0; what <= 2; what++) {
-                told[n++] = x.event(row, what);
-            }
-        }
-        for (int row = 0; row < 3; row++) {
-            for (int what = 0; what <= 2; what++) {
-                told[n++] = x.planned(row, what);
-            }
-        }
-        for (int which = 0; which <= 3; which++) {
-            told[n++] = x.setting(which);
-        }
-        return told;
-    }
-
-    private static void same(String what, int[] got, int[] want) {
-        for (int i = 0; i < want.length; i++) {
-            Due.due(what + ", answer " + i, got[i], want[i]);
-        }
-    }
-
     private static void changeMuch(LampChanger x) {
         x.pass(190);
         x.set(2, 5);
@@ -77,15 +41,15 @@ public final class HistoryTest {
 
     private static void promise13UndoBringsAllBack() {
         LampChanger x = afterMuch();
-        int[] before = allThatIsTold(x);
+        Told before = Told.state(x);
         changeMuch(x);
         for (int i = 3; i >= 0; i--) {
             Due.due("undo", x.undo(), i);
         }
-        same("after undo", allThatIsTold(x), before);
+        Told.state(x).isAs("after undo", before);
         LampChanger y = afterMuch();
         Due.due("goes on alike", x.pass(200), y.pass(200));
-        same("goes on alike", allThatIsTold(x), allThatIsTold(y));
+        Told.state(x).isAs("goes on alike", Told.state(y));
     }
 
     private static void promise14Keep() {
@@ -115,14 +79,14 @@ public final class HistoryTest {
 
     private static void promise15RestoreBringsAllBack() {
         LampChanger x = afterMuch();
-        int[] before = allThatIsTold(x);
+        Told before = Told.state(x);
         Due.due("keep", x.keep(), 140);
         changeMuch(x);
         Due.due("restore", x.restore(), 140);
-        same("after restore", allThatIsTold(x), before);
+        Told.state(x).isAs("after restore", before);
         changeMuch(x);
         Due.due("restore again", x.restore(), 140);
-        same("after restore again", allThatIsTold(x), before);
+        Told.state(x).isAs("after restore again", before);
         Due.due("states", x.count(12), 4);
         Due.due("undo", x.undo(), 3);
         Due.due("a setting from before", x.setting(2), 5);

@@ -1,11 +1,5 @@
 /** Promise 10 (pass): the arguments, and what happens in a tick. */
 public final class TicksTest {
-    private static void eventIs(LampChanger x, int back, int event, int number, int tick) {
-        Due.due("event(" + back + ", 0)", x.event(back, 0), event);
-        Due.due("event(" + back + ", 1)", x.event(back, 1), number);
-        Due.due("event(" + back + ", 2)", x.event(back, 2), tick);
-    }
-
     private static void arguments() {
         LampChanger x = new LampChanger();
         int[] wrong = {0, -1, 201, Integer.MIN_VALUE, Integer.MAX_VALUE};
@@ -76,13 +70,13 @@ public final class TicksTest {
         Due.due("not tired yet", x.lamp(0, 5), 0);
         x.pass(1);
         Due.due("tired", x.lamp(0, 5), 1);
-        eventIs(x, 0, 1, 0, 148);
+        Due.eventIs("latest events", x, 0, 1, 0, 148);
         Due.due("burns on", x.pass(14), 0);
         Due.due("one event alone", x.count(9), 1);
         Due.due("below, counted on", x.lamp(0, 7), 16);
         Due.due("wear at dawn", x.lamp(0, 2), 96);
         x.pass(1);
-        eventIs(x, 0, 3, 2, 163);
+        Due.eventIs("latest events", x, 0, 3, 2, 163);
         Due.due("ticks to go", x.wheel(2), 4);
         x.pass(3);
         Due.due("front", x.wheel(0), 0);
@@ -104,7 +98,7 @@ public final class TicksTest {
         Due.due("not tired by day", x.lamp(0, 5), 0);
         x.pass(1);
         Due.due("tired in the third night", x.lamp(0, 5), 1);
-        eventIs(x, 0, 1, 0, 96);
+        Due.eventIs("latest events", x, 0, 1, 0, 96);
     }
 
     private static void aTickAboveTheLimitBeginsAnew() {
@@ -132,23 +126,6 @@ public final class TicksTest {
         Due.due("tired once", x.count(9), 1);
     }
 
-    private static void theLimitItselfIsNotBelow() {
-        LampChanger x = new LampChanger();
-        x.set(0, 99);
-        x.set(1, 1);
-        x.putIn(0, 0, 100);
-        x.pass(6);
-        // 1000 - 16000 / 1600
-        Due.due("current", x.lamp(0, 4), 990);
-        Due.due("not below", x.lamp(0, 7), 0);
-        x.pass(1);
-        Due.due("rounded", x.lamp(0, 4), 990);
-        Due.due("not below", x.lamp(0, 5), 0);
-        x.pass(1);
-        Due.due("current", x.lamp(0, 4), 989);
-        Due.due("tired", x.lamp(0, 5), 1);
-    }
-
     private static void burntOutByATick() {
         LampChanger x = new LampChanger();
         x.setNight(0, 47);
@@ -160,11 +137,11 @@ public final class TicksTest {
         Due.due("burnt out", x.lamp(0, 6), 1);
         Due.due("wear", x.lamp(0, 2), 100);
         Due.due("burns no more", x.wheel(3), 0);
-        eventIs(x, 0, 0, 0, 90);
-        eventIs(x, 1, 1, 0, 90);
+        Due.eventIs("latest events", x, 0, 0, 0, 90);
+        Due.eventIs("latest events", x, 1, 1, 0, 90);
         Due.due("still", x.wheel(1), Due.NONE);
         Due.due("the wheel begins to turn", x.pass(1), 1);
-        eventIs(x, 0, 2, 5, 91);
+        Due.eventIs("latest events", x, 0, 2, 5, 91);
         Due.due("aim", x.wheel(1), 5);
         Due.due("ticks to go", x.wheel(2), 10);
         x.pass(4);
@@ -189,15 +166,15 @@ public final class TicksTest {
         Due.due("current", x.lamp(0, 4), 0);
         Due.due("not measured", x.lamp(0, 7), 16);
         Due.due("does not burn", x.wheel(3), 0);
-        eventIs(x, 0, 0, 0, 192);
-        eventIs(x, 1, 1, 0, 148);
+        Due.eventIs("latest events", x, 0, 0, 0, 192);
+        Due.eventIs("latest events", x, 1, 1, 0, 148);
         Due.due("no next one", x.pass(1), 1);
         Due.due("still", x.wheel(1), Due.NONE);
         Due.due("events", x.count(9), 2);
     }
 
     private static void theNextOneInTheNight() {
-        LampChanger x = Due.quicklyTired();
+        LampChanger x = Beacons.quicklyTired();
         x.set(2, 1);
         x.putIn(1, 2, 50);
         x.turnTo(1);
@@ -206,27 +183,27 @@ public final class TicksTest {
         x.putIn(4, 2, 50);
         x.turnTo(0);
         Due.due("dark on the way, and as it turns", x.pass(5), 5);
-        eventIs(x, 0, 2, 4, 5);
+        Due.eventIs("latest events", x, 0, 2, 4, 5);
         Due.due("a fresh one ahead of a nearer tired one", x.wheel(1), 4);
         Due.due("ticks to go", x.wheel(2), 4);
     }
 
     private static void aTiredOneInTheNight() {
-        LampChanger x = Due.quicklyTired();
+        LampChanger x = Beacons.quicklyTired();
         x.set(2, 1);
         x.putIn(1, 2, 50);
         x.turnTo(1);
         x.pass(1);
         x.turnTo(0);
         x.pass(5);
-        eventIs(x, 0, 2, 1, 5);
+        Due.eventIs("latest events", x, 0, 2, 1, 5);
         Due.due("none is fresh: the tired one", x.wheel(1), 1);
         Due.due("lit by it", x.pass(2), 0);
         Due.due("tired once", x.count(9), 2);
     }
 
     private static void aTiredLampStaysInTheNight() {
-        LampChanger x = Due.quicklyTired();
+        LampChanger x = Beacons.quicklyTired();
         x.putIn(0, 2, 50);
         x.putIn(1, 2, 50);
         Due.due("lit", x.pass(12), 0);
@@ -234,17 +211,17 @@ public final class TicksTest {
         Due.due("it burns on", x.lamp(0, 2), 17);
         Due.due("still", x.wheel(1), Due.NONE);
         x.pass(1);
-        eventIs(x, 0, 3, 1, 12);
+        Due.eventIs("latest events", x, 0, 3, 1, 12);
         Due.due("events", x.count(9), 2);
     }
 
     private static void changesByDay() {
-        LampChanger x = Due.quicklyTired();
+        LampChanger x = Beacons.quicklyTired();
         x.pass(12);
         Due.due("no lamp at all", x.wheel(1), Due.NONE);
         x.putIn(3, 2, 50);
         x.pass(1);
-        eventIs(x, 0, 3, 3, 12);
+        Due.eventIs("latest events", x, 0, 3, 3, 12);
         Due.due("ticks to go", x.wheel(2), 6);
         x.set(2, 1);
         Due.due("a setting does not change a turn", x.wheel(2), 6);
@@ -261,7 +238,7 @@ public final class TicksTest {
         x.putIn(2, 2, 50);
         x.pass(1);
         Due.due("the whole way round", x.wheel(2), 5);
-        eventIs(x, 0, 3, 2, 77);
+        Due.eventIs("latest events", x, 0, 3, 2, 77);
     }
 
     private static void onwardByDayFromWhereItStops() {
@@ -275,7 +252,7 @@ public final class TicksTest {
         x.pass(1);
         Due.due("front", x.wheel(0), 2);
         Due.due("onward in the same tick", x.wheel(1), 4);
-        eventIs(x, 0, 3, 4, 13);
+        Due.eventIs("latest events", x, 0, 3, 4, 13);
     }
 
     private static void boatsBringLamps() {
@@ -293,7 +270,7 @@ public final class TicksTest {
             Due.due("kind in " + socket, x.lamp(socket, 0), kinds[socket]);
             Due.due("strength in " + socket, x.lamp(socket, 1), strengths[socket]);
         }
-        eventIs(x, 0, 4, 4, 4);
+        Due.eventIs("latest events", x, 0, 4, 4, 4);
         Due.due("strong ones left", x.count(5), 0);
         Due.due("small ones left", x.count(6), 0);
         Due.due("boats", x.count(10), 1);
@@ -308,56 +285,11 @@ public final class TicksTest {
         }
         x.boat(12, 2, 3);
         x.pass(1);
-        eventIs(x, 0, 4, 0, 12);
+        Due.eventIs("latest events", x, 0, 4, 0, 12);
         Due.due("stock", x.count(6), 3);
         x.takeOut(4);
         x.pass(1);
         Due.due("no boat: none is put in", x.count(1), 5);
-    }
-
-    private static void whatIsBeyond99IsLost() {
-        LampChanger x = new LampChanger();
-        x.pass(12);
-        for (int i = 0; i < 16; i++) {
-            x.stock(0, 6);
-        }
-        for (int socket = 0; socket <= 5; socket++) {
-            x.putIn(socket, 0, 100);
-        }
-        x.boat(12, 0, 3);
-        x.boat(13, 0, 6);
-        x.pass(1);
-        Due.due("96 and 3", x.count(4), 99);
-        x.pass(1);
-        Due.due("99 and 6", x.count(4), 99);
-        x.takeOut(2);
-        x.takeOut(3);
-        x.boat(14, 0, 6);
-        x.pass(1);
-        Due.due("lost ahead of being put in", x.count(4), 97);
-        eventIs(x, 0, 4, 2, 14);
-    }
-
-    private static void boatsTakeOldLampsOut(int tiredOnesToo) {
-        LampChanger x = Due.quicklyTired();
-        x.set(3, tiredOnesToo);
-        x.set(2, 1);
-        x.putIn(0, 2, 50);
-        x.putIn(1, 2, 50);
-        x.pass(1);
-        x.turnTo(1);
-        x.pass(1);
-        Due.due("both are tired", x.count(3), 2);
-        x.boat(3, 2, 1);
-        x.pass(1);
-        Due.due("no boat yet", x.count(1), 2);
-        x.pass(1);
-        Due.due("the tired one that does not burn", x.lamp(0, 5), tiredOnesToo == 1 ? 0 : 1);
-        Due.due("its strength", x.lamp(0, 1), tiredOnesToo == 1 ? 100 : 50);
-        Due.due("the one that burns", x.lamp(1, 1), 50);
-        Due.due("it burns", x.wheel(3), 1);
-        Due.due("lamps", x.count(1), tiredOnesToo == 1 ? 2 : 3);
-        eventIs(x, 0, 4, 1, 3);
     }
 
     private static void boatsTakeABurntOutLampOut() {
@@ -366,9 +298,9 @@ public final class TicksTest {
         x.putIn(0, 2, 50);
         x.boat(90, 1, 1);
         Due.due("lit", Due.pass(x, 91), 0);
-        eventIs(x, 0, 4, 1, 90);
-        eventIs(x, 1, 0, 0, 90);
-        eventIs(x, 2, 1, 0, 72);
+        Due.eventIs("latest events", x, 0, 4, 1, 90);
+        Due.eventIs("latest events", x, 1, 0, 0, 90);
+        Due.eventIs("latest events", x, 2, 1, 0, 72);
         Due.due("a new lamp at the front", x.lamp(0, 3), 700);
         Due.due("it is not on", x.wheel(3), 0);
         Due.due("lit again at once", x.pass(1), 0);
@@ -377,7 +309,7 @@ public final class TicksTest {
     }
 
     private static void aBoatWithoutRoomInTheStockForTheTired() {
-        LampChanger x = Due.quicklyTired();
+        LampChanger x = Beacons.quicklyTired();
         x.set(3, 1);
         x.putIn(0, 2, 50);
         x.pass(13);
@@ -413,7 +345,6 @@ public final class TicksTest {
         tiredByThePatience();
         ticksWithoutBurningDoNotMatter();
         aTickAboveTheLimitBeginsAnew();
-        theLimitItselfIsNotBelow();
         burntOutByATick();
         burntOutBySwitchingOn();
         theNextOneInTheNight();
@@ -423,9 +354,6 @@ public final class TicksTest {
         onwardByDayFromWhereItStops();
         boatsBringLamps();
         aBoatInVain();
-        whatIsBeyond99IsLost();
-        boatsTakeOldLampsOut(0);
-        boatsTakeOldLampsOut(1);
         boatsTakeABurntOutLampOut();
         aBoatWithoutRoomInTheStockForTheTired();
         boatsOfTheLastTick();

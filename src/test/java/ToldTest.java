@@ -45,7 +45,7 @@ public final class ToldTest {
     }
 
     private static void promise17TheNextSocket() {
-        LampChanger x = Due.quicklyTired();
+        LampChanger x = Beacons.quicklyTired();
         x.putIn(0, 2, 50);
         Due.due("the front is the last that is looked at", x.wheel(5), 0);
         x.putIn(5, 2, 50);

@@ -8,20 +8,43 @@ final class Due {
 
     private static int asked = 0;
     private static int wrong = 0;
+    private static String sentence = "";
+    private static int askedBySentence = 1;
 
     private Due() {
     }
 
     static void due(String call, long got, long want) {
         asked++;
+        askedBySentence++;
         if (got != want) {
             wrong++;
-            System.out.println(call + " answered " + got + ", due is " + want);
+            System.out.println(sentence + call + " answered " + got + ", due is " + want);
+        }
+    }
+
+    /** Begins the test of a sentence of the document: it stands ahead of each wrong answer from here on. */
+    static void sentence(String quoted) {
+        endOfSentence();
+        sentence = "\"" + quoted + "\": ";
+        askedBySentence = 0;
+    }
+
+    private static void endOfSentence() {
+        if (askedBySentence == 0) {
+            wrong++;
+            System.out.println(sentence + "nothing is asked");
         }
     }
 
     static void holds(String what, boolean so) {
         due(what, so ? 1 : 0, 1);
+    }
+
+    static void eventIs(String when, LampChanger x, int back, int event, int number, int tick) {
+        due(when + ", event(" + back + ", 0)", x.event(back, 0), event);
+        due(when + ", event(" + back + ", 1)", x.event(back, 1), number);
+        due(when + ", event(" + back + ", 2)", x.event(back, 2), tick);
     }
 
     static void type(LampChanger x, String text) {
@@ -46,15 +69,8 @@ final class Due {
         return dark;
     }
 
-    /** Limit 99 and patience 1: a small weak lamp is tired in the first tick in which it burns. */
-    static LampChanger quicklyTired() {
-        LampChanger x = new LampChanger();
-        x.set(0, 99);
-        x.set(1, 1);
-        return x;
-    }
-
     static void end() {
+        endOfSentence();
         System.out.println(asked + " answers, " + wrong + " not as due");
         if (wrong != 0 || asked == 0) {
             System.exit(1);
