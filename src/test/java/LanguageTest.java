@@ -100,6 +100,30 @@ public final class LanguageTest {
         Due.due("public classes", code.split("public final class").length - 1, 1);
     }
 
+    /** No call makes an object, so that all calls of a run find room: constructors alone do. */
+    private static void constructorsAloneMakeObjects(String path) throws IOException {
+        boolean inConstructor = false;
+        int line = 0;
+        for (String text : Files.readAllLines(Path.of(path))) {
+            line++;
+            if (text.matches("    (    )?[a-zA-Z].*\\) \\{")) {
+                inConstructor = text.matches(" +(public )?[A-Z][a-zA-Z]*\\(.*\\) \\{");
+            }
+            boolean makes = text.matches(".*[^a-zA-Z]new [A-Za-z].*") && !text.matches(" *(/\\*|\\*|//).*");
+            Due.holds("line " + line + " makes no object outside a constructor", !makes || inConstructor);
+        }
+    }
+
+    private static void theLibraryThatIsListed(String path) throws IOException {
+        String whole = Files.readString(Path.of(path));
+        Matcher used = Pattern.compile("\\b(Math|System|Arrays|Integer|Long|String|List)\\.(\\w+)").matcher(whole);
+        List<String> listed = List.of("Math.max", "Math.min", "Math.abs", "Math.floorDiv", "Math.floorMod",
+                "System.arraycopy", "Arrays.fill", "Arrays.copyOf", "Arrays.copyOfRange");
+        while (used.find()) {
+            Due.holds(used.group() + " is in the list", listed.contains(used.group()));
+        }
+    }
+
     private static void methodsAreShort(String path) throws IOException {
         int begun = 0;
         int line = 0;
@@ -120,6 +144,8 @@ public final class LanguageTest {
         theConstants();
         theClassesInside();
         theSource(args[0]);
+        constructorsAloneMakeObjects(args[0]);
+        theLibraryThatIsListed(args[0]);
         methodsAreShort(args[0]);
         Due.end();
     }
