@@ -895,7 +895,9 @@ public final class LampChanger {
 
         Beacon() {
             settings = new int[FIRST_SETTINGS.length];
-            Rows.copy(FIRST_SETTINGS, settings);
+            for (int i = 0; i < settings.length; i++) {
+                settings[i] = Rows.at(FIRST_SETTINGS, i);
+            }
             lampsInStock = new int[KINDS];
             wheel = new Wheel();
             plan = new Plan();

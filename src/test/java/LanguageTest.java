@@ -114,6 +114,26 @@ public final class LanguageTest {
         }
     }
 
+    /** Rule 12: what a constructor calls makes another object, or looks into a row of the class. */
+    private static void constructorsHandOutNothing(String path) throws IOException {
+        boolean inConstructor = false;
+        int constructors = 0;
+        int line = 0;
+        for (String text : Files.readAllLines(Path.of(path))) {
+            line++;
+            if (text.matches(" +(public )?[A-Z][a-zA-Z]*\\(.*\\) \\{")) {
+                inConstructor = true;
+                constructors++;
+            } else if (text.matches("    (    )?\\}")) {
+                inConstructor = false;
+            } else if (inConstructor) {
+                String calls = text.replaceAll("new [A-Z]\\w*\\(\\)|Rows\\.at\\([A-Z_]+, \\w+\\)|for \\(", "");
+                Due.holds("line " + line + " hands out nothing", !calls.matches(".*\\w\\(.*|.*\\bthis\\b.*"));
+            }
+        }
+        Due.due("constructors looked at", constructors, 8);
+    }
+
     private static void theLibraryThatIsListed(String path) throws IOException {
         String whole = Files.readString(Path.of(path));
         Matcher used = Pattern.compile("\\b(Math|System|Arrays|Integer|Long|String|List)\\.(\\w+)").matcher(whole);
@@ -145,6 +165,7 @@ public final class LanguageTest {
         theClassesInside();
         theSource(args[0]);
         constructorsAloneMakeObjects(args[0]);
+        constructorsHandOutNothing(args[0]);
         theLibraryThatIsListed(args[0]);
         methodsAreShort(args[0]);
         Due.end();
